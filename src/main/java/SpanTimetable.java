@@ -415,7 +415,7 @@ public final class SpanTimetable {
 
     private int takeBest() {
         history.remember(plan);
-        System.arraycopy(search.bestTimes, 0, plan.times, 0, MAX_EVENTS);
+        System.arraycopy(search.bestTimes, 0, plan.times, 0, plan.eventCount);
         return search.bestCost;
     }
 
@@ -636,7 +636,7 @@ public final class SpanTimetable {
                 for (int time = 0; time < period; time++) {
                     times[event] = time;
                     int broken = countBroken();
-                    int costs = broken > leastBroken ? leastCosts : sumCosts();
+                    int costs = sumCosts();
                     if (broken < leastBroken || broken == leastBroken && costs < leastCosts) {
                         leastBroken = broken;
                         leastCosts = costs;
@@ -1174,7 +1174,6 @@ public final class SpanTimetable {
             events = plan.eventCount;
             period = plan.period;
             bestCost = NEVER;
-            System.arraycopy(plan.times, 0, bestTimes, 0, MAX_EVENTS);
             differences.startFrom(plan);
             differences.tighten();
             if (!differences.hasEmptySet()) {
@@ -1246,16 +1245,21 @@ public final class SpanTimetable {
                 return;
             }
             for (int time = 0; time < period; time++) {
-                int sum = cost + eventCosts[event][event * MAX_PERIOD + time];
-                if (isOpenBelow(sum) && isOpenBelow(sum + priceBehind(event, time))) {
-                    tried[event] = time;
-                    placeFrom(event + 1, sum);
-                }
+                placeAt(event, time, cost + eventCosts[event][event * MAX_PERIOD + time]);
             }
         }
 
-        private boolean isOpenBelow(int cost) {
-            return cost < bestCost && (bestCost == NEVER || !firstOnly);
+        /** Places an event at a time, with which the placed ones are at the given cost. */
+        private void placeAt(int event, int time, int cost) {
+            if (canGetBest(cost) && canGetBest(cost + priceBehind(event, time))) {
+                tried[event] = time;
+                placeFrom(event + 1, cost);
+            }
+        }
+
+        private boolean canGetBest(int leastSum) {
+            // An equal cost is no better: of several cheapest ones the first is asked for.
+            return leastSum < bestCost && (bestCost == NEVER || !firstOnly);
         }
 
         /** Prices the events behind one that is placed; returns the least that they will cost. */

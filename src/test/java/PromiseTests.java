@@ -362,6 +362,7 @@ public final class PromiseTests {
 
     static void promise16FirstBroken() {
         equal("the last one", 3, Kit.made(TRIANGLE).firstBroken());
+        equal("span 0", 0, Kit.made(THREE + "span a b 4 4;").firstBroken());
         equal("the first of several", 1, Kit.made(THREE + "span a b 3 3;span a b 4 4;span a b 3 3;span a b 5 5;").firstBroken());
         SpanTimetable x = Kit.made(LOOSE);
         Kit.refused(x, NOTHING_THERE, "firstBroken()", () -> x.firstBroken());
@@ -378,6 +379,7 @@ public final class PromiseTests {
     static void promise18MeanSlack() {
         equal("mean", 9f / 6f, Kit.made(TRIANGLE).meanSlack());
         equal("a mean that is no short fraction", 11f / 7f, Kit.made(THREE + "span a b 2 4 3;span b c 2 4 4;").meanSlack());
+        equal("a WEIGHT of 1", 2f, Kit.made(THREE + "span a b 1 4;").meanSlack());
         equal("weights of 0", 0f, Kit.made(THREE + "span a b 1 4 0;").meanSlack());
         equal("without spans", 0f, Kit.made(THREE).meanSlack());
     }
@@ -570,6 +572,7 @@ public final class PromiseTests {
         String before = Kit.state(x);
         equal("costIf(1, 2)", 0 + 2 + 6, x.costIf(1, 2));
         equal("costIf(1, 3): as it is", 9, x.costIf(1, 3));
+        equal("costIf(1, 0)", 2 * 8 + 4 + 6, x.costIf(1, 0));
         equal("costIf(0, 9)", 2 * 2 + 1 + 3 * 1, x.costIf(0, 9));
         equal("nothing changes", before, Kit.state(x));
         equal("no edit is remembered", SpanTimetable.NONE, x.undo());
@@ -588,6 +591,7 @@ public final class PromiseTests {
         }
         equal("nothing changes", before, Kit.state(x));
         equal("no edit is remembered", SpanTimetable.NONE, x.undo());
+        equal("1 at the most", 1, Kit.made(THREE + "span a b 2 5;span a b 2 3;").canRaise(0));
         equal("0 at the most", 0, Kit.made(THREE + "span a b 2 5;span a b 2 2;").canRaise(0));
         equal("HIGH is LOW", 0, Kit.made(THREE + "span a b 2 2;").canRaise(0));
         equal("above 48", 9, Kit.made(THREE + "span a b 48 57;").canRaise(0));
@@ -630,6 +634,7 @@ public final class PromiseTests {
         shares("span a b 1 1 1;span a b 1 1 5;span a b 1 1 5;", 2, 0, 1, 1);
         shares("span a b 1 1 20;span a b 1 1 19;", 999, 512, 487);
         shares("span a b 1 1 0;span a b 1 1 0;", 999, 0, 0);
+        shares("span a b 1 1 0;span a b 1 1 1;", 999, 0, 999);
         SpanTimetable x = Kit.made(TRIANGLE);
         Kit.refused(x, INDEX, "share(4, 0)", () -> x.share(4, 0));
         Kit.refused(x, INDEX, "share(-1, 1000): the index first", () -> x.share(-1, 1000));
@@ -646,6 +651,8 @@ public final class PromiseTests {
         equal("move(0, 5)", 3, x.move(0, 5));
         equal("times then", "5 3 6", Kit.times(x));
         equal("move to where it is", 3, x.move(0, 5));
+        equal("move to 0", 1, x.move(0, 0));
+        equal("undo", 3, x.undo());
         equal("undo", 2, x.undo());
         equal("undo again", 1, x.undo());
         equal("times before", "0 3 6", Kit.times(x));
@@ -669,6 +676,7 @@ public final class PromiseTests {
         equal("undo", 4, x.undo());
         equal("undo", 3, x.undo());
         equal("times before", "9 2 6", Kit.times(x));
+        equal("of one event", 1, Kit.made("period 4;event a 3;").shift(2));
         SpanTimetable y = new SpanTimetable();
         equal("without events", SpanTimetable.NONE, y.shift(1));
         equal("without events, an edit as well", 0, y.undo());
@@ -771,6 +779,9 @@ public final class PromiseTests {
         Kit.refused(x, ARGUMENT, "setPeriod(25)", () -> x.setPeriod(25));
         Kit.refused(x, ARGUMENT, "setPeriod(MIN)", () -> x.setPeriod(LEAST));
         equal("setPeriod as it is", 3, x.setPeriod(3));
+        SpanTimetable y = Kit.made("period 9;event a 8;event b 0;span a b 0 0;");
+        y.setPeriod(7);
+        equal("the time of event 0 modulo 7", "1 0", Kit.times(y));
         equal("undo", 2, x.undo());
         equal("undo", 1, x.undo());
         equal("times before", "0 3 7", Kit.times(x));

@@ -1283,6 +1283,8 @@ public final class SpanTimetable {
 
     /** The output: its characters so far. */
     private static final class Page {
+        private static final int GREATEST_UNIT = 1_000_000_000;
+
         final char[] signs = new char[MAX_OUTPUT];
         int length = 0;
 
@@ -1297,16 +1299,18 @@ public final class SpanTimetable {
             }
         }
 
-        /** Puts a number of at most two digits. */
+        /** Puts a number with all its digits: the turns of a long cycle have three, others fewer. */
         void putNumber(int number) {
-            int size = number < 0 ? -number : number;
             if (number < 0) {
                 put('-');
             }
-            if (size > 9) {
-                put((char) ('0' + size / 10 % 10));
+            for (int unit = GREATEST_UNIT; unit > 0; unit /= 10) {
+                int digits = number / unit;
+                if (digits != 0 || unit == 1) {
+                    int digit = digits % 10;
+                    put((char) ('0' + (digit < 0 ? -digit : digit)));
+                }
             }
-            put((char) ('0' + size % 10));
         }
     }
 }

@@ -927,6 +927,46 @@ public final class PromiseTests {
         equal("no turns", "+1-0=0", Kit.output(z));
     }
 
+    static void promise48WriteCycleWithManyTurns() {
+        String chain = "period 2;" + events("abcdef", 0) + chain("abcdef", "48 49");
+        writesCycle(chain + "span f a 48 49;", "+5+0+1+2+3+4=144");
+        writesCycle(chain + "span a f 0 1;", "+5-4-3-2-1-0=-120");
+        writesCycle("period 2;" + events("acbdef", 0) + "span a b 48 49;span a c 0 0;span b d 48 49;span c d 0 0;",
+                "+3-2-0+1=-48");
+        String line = "period 2;" + events("abcdef", 0) + chain("abcdef", "40 41");
+        writesCycle(line + "span f a 0 1;", "+5+0+1+2+3+4=100");
+        writesCycle("period 2;" + events("abcde", 0) + chain("abcde", "40 41") + "span e a 38 39;", "+4+0+1+2+3=99");
+        writesCycle("period 2;" + events("abcde", 0) + chain("abcde", "48 49") + "span e a 9 10;", "+4+0+1+2+3=101");
+        SpanTimetable most = Kit.made("period 2;event a 0;event b 1;event c 0;event d 1;event e 0;event f 1;"
+                + chain("abcdef", "48 49") + "span f a 48 49;");
+        equal("the most turns of all", 16, most.writeCycle(0));
+        equal("their output", "+5+0+1+2+3+4=147", Kit.output(most));
+    }
+
+    private static void writesCycle(String text, String due) {
+        SpanTimetable x = Kit.made(text);
+        equal(text, due.length(), x.writeCycle(0));
+        equal(text, due, Kit.output(x));
+        equal("turns as written", due.substring(due.indexOf('=') + 1), "" + x.turns(0, 0));
+    }
+
+    private static String events(String names, int time) {
+        StringBuilder text = new StringBuilder();
+        for (char name : names.toCharArray()) {
+            text.append("event ").append(name).append(" ").append(time).append(";");
+        }
+        return text.toString();
+    }
+
+    private static String chain(String names, String durations) {
+        StringBuilder text = new StringBuilder();
+        for (int k = 1; k < names.length(); k++) {
+            text.append("span ").append(names.charAt(k - 1)).append(" ").append(names.charAt(k));
+            text.append(" ").append(durations).append(";");
+        }
+        return text.toString();
+    }
+
     static void promise49Written() {
         SpanTimetable x = Kit.made(THREE);
         Kit.refused(x, INDEX, "written(0) of nothing", () -> x.written(0));

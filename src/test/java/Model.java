@@ -487,45 +487,81 @@ public final class Model {
 
     // ---- good timetables
 
-    private static List<State> good(State state) {
-        List<State> found = new ArrayList<>();
-        int events = state.times.size();
-        long count = 1;
-        for (int event = 1; event < events; event++) {
-            count *= state.period;
+    /** No more timetables than this are good; an event's time follows from a span to one before it. */
+    long mostGood() {
+        long most = 1;
+        for (int event = 1; event < events(); event++) {
+            int ways = period();
+            for (Span span : now.spans) {
+                if (Math.max(span.from, span.to) == event) {
+                    ways = Math.min(ways, span.high - span.low + 1);
+                }
+            }
+            most *= ways;
         }
-        for (long number = 0; number < count; number++) {
-            Integer[] times = new Integer[events];
-            long rest = number;
-            for (int event = events - 1; event > 0; event--) {
-                times[event] = (int) (rest % state.period);
-                rest /= state.period;
-            }
-            if (events > 0) {
-                times[0] = state.times.get(0);
-            }
-            State other = state.withTimes(Arrays.asList(times));
-            if (other.countBroken() == 0) {
-                found.add(other);
-            }
-        }
-        return found;
+        return most;
     }
 
-    private List<State> someGood() {
-        List<State> found = good(now);
-        if (found.isEmpty()) {
+    /** Tries the timetables in their order; a way is left where a span is broken. */
+    private static final class Trial {
+        private final State state;
+        private final Integer[] times;
+        State first = null;
+        State cheapest = null;
+
+        Trial(State state) {
+            this.state = state;
+            times = new Integer[state.times.size()];
+            place(0);
+        }
+
+        private void place(int event) {
+            if (event == times.length) {
+                State found = state.withTimes(Arrays.asList(times));
+                first = first == null ? found : first;
+                cheapest = cheapest == null || found.sumCosts() < cheapest.sumCosts() ? found : cheapest;
+                return;
+            }
+            int held = event == 0 ? state.times.get(0) : -1;
+            for (int time = 0; time < state.period; time++) {
+                times[event] = time;
+                if ((held < 0 || time == held) && keepsAllTo(event)) {
+                    place(event + 1);
+                }
+            }
+        }
+
+        private boolean keepsAllTo(int event) {
+            for (Span span : state.spans) {
+                if (Math.max(span.from, span.to) == event) {
+                    int more = Math.floorMod(times[span.to] - times[span.from] - span.low, state.period);
+                    if (span.low + more > span.high) {
+                        return false;
+                    }
+                }
+            }
+            return true;
+        }
+    }
+
+    private Trial someGood() {
+        Trial trial = new Trial(now);
+        if (trial.first == null) {
             throw new NoSuchElementException();
         }
-        return found;
+        return trial;
+    }
+
+    private static boolean isSolvable(State state) {
+        return new Trial(state).first != null;
     }
 
     public boolean isSolvable() {
-        return !good(now).isEmpty();
+        return isSolvable(now);
     }
 
     public int leastCost() {
-        return someGood().stream().mapToInt(State::sumCosts).min().getAsInt();
+        return someGood().cheapest.sumCosts();
     }
 
     public int costIf(int event, int time) {
@@ -540,7 +576,7 @@ public final class Model {
         int most = -1;
         for (int raise = 0; raise <= it.high - it.low; raise++) {
             Span raised = new Span(it.from, it.to, it.low + raise, it.high, it.weight);
-            if (!good(now.withSpan(span, raised)).isEmpty()) {
+            if (isSolvable(now.withSpan(span, raised))) {
                 most = raise;
             }
         }
@@ -549,7 +585,7 @@ public final class Model {
 
     public boolean isCritical(int span) {
         index(span, spans());
-        return good(now).isEmpty() && !good(now.withSpan(span, null)).isEmpty();
+        return !isSolvable(now) && isSolvable(now.withSpan(span, null));
     }
 
     public int share(int span, int amount) {
@@ -649,18 +685,12 @@ public final class Model {
     }
 
     public int solve() {
-        edit(someGood().get(0));
+        edit(someGood().first);
         return cost();
     }
 
     public int cheapen() {
-        // min answers the first one of several
-        List<State> found = someGood();
-        State best = found.get(0);
-        for (State other : found) {
-            best = other.sumCosts() < best.sumCosts() ? other : best;
-        }
-        edit(best);
+        edit(someGood().cheapest);
         return cost();
     }
 

@@ -13,26 +13,36 @@ public final class ModelRuns {
     private static final List<Method> CALLS = calls();
     private static final int[] WILD = {-1, -2, 24, 25, 48, 49, 20, 21, 999, 1000, Integer.MIN_VALUE, Integer.MAX_VALUE};
 
+    // Where more timetables may be good, the model's searches would take too long.
+    private static final long MOST_GOOD = 5_000;
+    private static final List<String> SEARCHES =
+            List.of("isSolvable", "leastCost", "canRaise", "isCritical", "solve", "cheapen");
+
     private final Random random;
+    private final boolean wide;
     private final SpanTimetable real = new SpanTimetable();
     private final Model model = new Model();
     private final List<String> log = new ArrayList<>();
 
-    private ModelRuns(long seed) {
+    private ModelRuns(long seed, boolean wide) {
         random = new Random(seed);
+        this.wide = wide;
     }
 
     public static void main(String[] args) throws ReflectiveOperationException {
-        runAll("legal and illegal texts", 0, 4000, 12);
-        runAll("short runs", 100_000, 2500, 60);
-        runAll("runs of 512 calls", 200_000, 60, 512);
+        runAll("legal and illegal texts", 0, 4000, 12, false);
+        runAll("short runs", 100_000, 2500, 60, false);
+        runAll("runs of 512 calls", 200_000, 60, 512, false);
+        runAll("short runs with wide texts", 300_000, 2500, 80, true);
+        runAll("runs of 512 calls with wide texts", 400_000, 60, 512, true);
         Kit.exit();
     }
 
-    private static void runAll(String name, long firstSeed, int runs, int calls) throws ReflectiveOperationException {
+    private static void runAll(String name, long firstSeed, int runs, int calls, boolean wide)
+            throws ReflectiveOperationException {
         Kit.begin();
         for (int run = 0; run < runs; run++) {
-            new ModelRuns(firstSeed + run).run(calls);
+            new ModelRuns(firstSeed + run, wide).run(calls);
         }
         Kit.end("model: " + name);
     }
@@ -55,6 +65,9 @@ public final class ModelRuns {
                 made += loadSomeText(calls - made);
             } else {
                 Method method = CALLS.get(random.nextInt(CALLS.size()));
+                if (SEARCHES.contains(method.getName()) && model.mostGood() > MOST_GOOD) {
+                    method = method("writeCycle");
+                }
                 if (!call(method, arguments(method))) {
                     return;
                 }
@@ -64,7 +77,7 @@ public final class ModelRuns {
     }
 
     private int loadSomeText(int most) throws ReflectiveOperationException {
-        byte[] text = text().getBytes(StandardCharsets.ISO_8859_1);
+        byte[] text = (wide ? wideText() : text()).getBytes(StandardCharsets.ISO_8859_1);
         byte[] filled = Arrays.copyOf(text, (text.length + 19) / 20 * 20);
         int feeds = filled.length / 20;
         if (text.length > 500 || feeds + 1 > most) {
@@ -142,9 +155,9 @@ public final class ModelRuns {
             case "setPeriod":
                 return 2 + random.nextInt(Math.min(23, real.period() + 2));
             case "written":
-                return random.nextInt(40);
+                return random.nextInt(wide ? 130 : 40);
             case "turns":
-                return random.nextInt(place == 0 ? 4 : 3);
+                return random.nextInt(place == 0 ? cyclesTold() : 3);
             case "span":
                 return random.nextInt(place == 0 ? Math.max(1, real.spans()) : 5);
             case "share":
@@ -155,7 +168,7 @@ public final class ModelRuns {
             case "cycleSpan":
             case "isForward":
             case "writeCycle":
-                return random.nextInt(4);
+                return random.nextInt(place == 0 ? cyclesTold() : 4);
             case "isAllowed":
                 return random.nextInt(place == 2 ? real.period() + 1 : 1 + real.events());
             case "time":
@@ -171,7 +184,38 @@ public final class ModelRuns {
         }
     }
 
+    private int cyclesTold() {
+        return wide ? 1 + model.cycles() : 4;
+    }
+
     // ---- texts
+
+    /** A legal text with numbers from all their ranges, long cycles and many spans. */
+    private String wideText() {
+        int period = 2 + random.nextInt(random.nextInt(3) == 0 ? 3 : 23);
+        int events = 2 + random.nextInt(5);
+        boolean large = random.nextBoolean();
+        StringBuilder text = new StringBuilder("period " + period + ";");
+        for (int event = 0; event < events; event++) {
+            text.append("event ").append(wideName(event)).append(" ").append(random.nextInt(period)).append(";");
+        }
+        int spans = random.nextInt(3) == 0 ? events : random.nextInt(15);
+        for (int span = 0; span < spans; span++) {
+            // A chain first, closed at its end, so that cycles are long.
+            int from = span < events ? span : random.nextInt(events);
+            int to = span < events ? (span + 1) % events : (from + 1 + random.nextInt(events - 1)) % events;
+            boolean turned = random.nextInt(large ? 8 : 2) == 0;
+            int low = large ? 30 + random.nextInt(19) : random.nextInt(49);
+            int high = low + random.nextInt(random.nextInt(3) == 0 ? period : (period + 2) / 3);
+            text.append("span ").append(wideName(turned ? to : from)).append(" ").append(wideName(turned ? from : to));
+            text.append(" ").append(low).append(" ").append(high).append(" ").append(random.nextInt(21)).append(";");
+        }
+        return text.toString();
+    }
+
+    private static String wideName(int event) {
+        return "abcdefghijklmnop".substring(event, event + 1 + event % 3);
+    }
 
     /** A text with few enough timetables for the model to try all of them; often with an error. */
     private String text() {

@@ -1,9 +1,4 @@
-import java.lang.reflect.InvocationTargetException;
-import java.lang.reflect.Method;
-import java.util.ArrayList;
 import java.util.Arrays;
-import java.util.Comparator;
-import java.util.List;
 
 /** A test for each promise of the document: ordinary inputs, its edges, and wrong inputs. */
 public final class PromiseTests {
@@ -14,36 +9,18 @@ public final class PromiseTests {
     private static final int LEAST = Integer.MIN_VALUE;
     private static final int MOST = Integer.MAX_VALUE;
 
-    private static final String THREE = "period 10;event a 0;event b 3;event c 7;";
-    // Kept: 0 (3 in 2..4), 1 (4 in 3..5), 2 (3 in 1..3); broken: 3 (7 in 5..6).
-    private static final String TRIANGLE = THREE + "span a b 2 4 2;span b c 3 5;span c a 1 3 3;span a c 5 6 0;";
-    // Solvable; two pairs are joined twice.
-    private static final String LOOSE = THREE + "span a b 2 4 2;span b c 3 5;span c a 1 3 3;span a c 5 8 0;";
-    private static final String SIX = "period 4;event a 0;event b 0;event c 0;event d 0;event e 0;event f 0;";
-    // Five events that must all differ modulo 4: each of three is possible, not all five.
-    private static final String CROWD = SIX + "span a b 1 3;span a c 1 3;span a d 1 3;span a e 1 3;span b c 1 3;"
-            + "span b d 1 3;span b e 1 3;span c d 1 3;span c e 1 3;span d e 1 3;";
+    private static final String THREE = Texts.THREE;
+    private static final String TRIANGLE = Texts.TRIANGLE;
+    private static final String LOOSE = Texts.LOOSE;
+    private static final String SIX = Texts.SIX;
+    private static final String CROWD = Texts.CROWD;
+    private static final String RINGS = Texts.RINGS;
 
     private PromiseTests() {
     }
 
     public static void main(String[] args) throws IllegalAccessException {
-        List<Method> tests = new ArrayList<>();
-        for (Method method : PromiseTests.class.getDeclaredMethods()) {
-            if (method.getName().startsWith("promise")) {
-                tests.add(method);
-            }
-        }
-        tests.sort(Comparator.comparing(Method::getName));
-        for (Method test : tests) {
-            Kit.begin();
-            try {
-                test.invoke(null);
-            } catch (InvocationTargetException wrapper) {
-                Kit.fail("threw " + wrapper.getCause() + " at " + wrapper.getCause().getStackTrace()[0]);
-            }
-            Kit.end(test.getName());
-        }
+        Kit.runAll(PromiseTests.class);
         Kit.exit();
     }
 
@@ -51,25 +28,12 @@ public final class PromiseTests {
         Kit.equal(what, due, got);
     }
 
-    /** Loading the text answers BAD_TEXT and tells the error; what was there stays. */
     private static void illegal(String text, int kind, int position) {
-        SpanTimetable x = Kit.made(TRIANGLE);
-        equal("load of '" + text + "'", SpanTimetable.BAD_TEXT, Kit.load(x, text));
-        equal("kind in '" + text + "'", kind, x.errorKind());
-        equal("position in '" + text + "'", position, x.errorPosition());
-        equal("times after '" + text + "'", "0 3 7", Kit.times(x));
-        equal("spans after '" + text + "'", "0 1 2 4 2; 1 2 3 5 1; 2 0 1 3 3; 0 2 5 6 0", Kit.spans(x));
+        Texts.illegal(text, kind, position);
     }
 
     private static void legal(String text, int period, String times, String spans) {
-        SpanTimetable x = Kit.made(TRIANGLE);
-        int due = spans.isEmpty() ? 0 : spans.split(";").length;
-        equal("load of '" + text + "'", due, Kit.load(x, text));
-        equal("kind in '" + text + "'", 0, x.errorKind());
-        equal("position in '" + text + "'", SpanTimetable.NONE, x.errorPosition());
-        equal("period in '" + text + "'", period, x.period());
-        equal("times in '" + text + "'", times, Kit.times(x));
-        equal("spans in '" + text + "'", spans, Kit.spans(x));
+        Texts.legal(text, period, times, spans);
     }
 
     static void promise01NewObject() {
@@ -456,10 +420,6 @@ public final class PromiseTests {
         Kit.refused(y, NOTHING_THERE, "bound(0)", () -> y.bound(0, false));
         Kit.refused(y, NOTHING_THERE, "bound(3)", () -> y.bound(3, true));
     }
-
-    // a-b, c-d, then b-c joins both; d-a closes a cycle of four, f-e is apart, c-a one of three.
-    private static final String RINGS = "period 10;event a 1;event b 2;event c 5;event d 0;event e 7;event f 9;"
-            + "span a b 0 2;span d c 5 6;span c b 7 8;span d a 1 3;span f e 8 9;span a c 0 5;span e f 1 2;span b a 3 9;";
 
     static void promise24Cycles() {
         equal("of four cycles", 4, Kit.made(RINGS).cycles());

@@ -5,7 +5,7 @@ final class AgainEdges {
     // All of it is greater than in the texts below: events, spans, cycles, turns, costs, period.
     private static final String LARGE = "period 24;event ab 1;event bc 5;event cd 9;event de 13;event ef 17;event fg 23;"
             + "span ab bc 40 50 20;span bc cd 40 50 20;span cd de 40 50 20;span de ef 40 50 20;span ef fg 40 50 20;"
-            + "span fg ab 40 62 20;span ab cd 0 22 20;span ab de 0 22 20;span bc de 0 22 20;span cd fg 0 22 20;";
+            + "span fg ab 40 62 20;span ab cd 0 22 20;span de ef 16 38 20;span ef de 30 52 20;span ef fg 16 38 20;";
     private static final String IMPOSSIBLE = "span a b 9 9;span a c 4 4 20;span c b 8 9 20;";
 
     private AgainEdges() {

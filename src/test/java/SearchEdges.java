@@ -88,6 +88,21 @@ final class SearchEdges {
         equal("leastCost", 7 * 20 * 23, Kit.made("period 24;event a 5;event b 5;" + spans).leastCost());
     }
 
+    static void promise31CostsThatNoTimetableAvoidsCountOnce() {
+        String both = "span c d 1 9 20;span d c 1 9 20;";
+        String six = "period 10;event a 0;event b 0;event c 0;event d 0;event e 0;event f 0;";
+        // The slacks between c and d are 8 together; b at 9, its last time, saves the 1 that b at 0 costs.
+        equal("leastCost", 8 * 20, Kit.made(six + both + "span a b 9 18 1;").leastCost());
+        equal("leastCost", 8 * 20, Kit.made(six + both + "span a f 9 18 1;").leastCost());
+    }
+
+    static void promise31LastTimeOfThePeriodIsTheCheapest() {
+        SpanTimetable x = Kit.made("period 24;event a 0;event b 0;event c 0;event d 0;span a c 23 46 5;span a d 0 23 7;");
+        equal("leastCost", 0, x.leastCost());
+        x.cheapen();
+        equal("times", "0 0 23 0", Kit.times(x));
+    }
+
     static void promise31OnlyGoodTimetablesCount() {
         SpanTimetable x = Kit.made(TWO + "span a b 0 9 9;span a b 7 8 0;");
         equal("cost of a broken one", 0, x.cost());

@@ -1,3 +1,4 @@
+import java.io.DataInputStream;
 import java.io.IOException;
 import java.lang.reflect.Constructor;
 import java.lang.reflect.Field;
@@ -33,6 +34,17 @@ public final class LanguageTests {
         "Exact\\(", "\\bSystem\\.(?!arraycopy)", "\\bArrays\\.(?!copyOf|copyOfRange|fill)", "\\bThread\\b", "\\bRandom\\b",
         "\\bfinal class \\w+ extends", "\\.(equals|hashCode|toString|getMessage)\\(", "\\bgoto\\b", "\\bvar\\b", "\\bdouble\\b"};
 
+    // Rule 4, as the compiled classes name it: the class, a dot, the method.
+    private static final String LIBRARY = "java/lang/Object\\.<init>"
+            + "|java/lang/(IllegalState|IllegalArgument|IndexOutOfBounds|Arithmetic|UnsupportedOperation|Runtime)Exception\\.<init>"
+            + "|java/util/NoSuchElementException\\.<init>"
+            + "|java/lang/String\\.(<init>|length|charAt|isEmpty|equals|indexOf|substring|toCharArray)"
+            + "|java/lang/StringBuilder\\.(<init>|append|charAt|setCharAt|setLength|deleteCharAt|reverse|length|toString)"
+            + "|java/lang/(Integer|Long|Math)\\.(compare|max|min|abs|bitCount|floorDiv|floorMod)"
+            + "|java/lang/System\\.arraycopy|java/util/Arrays\\.(copyOf|copyOfRange|fill)"
+            + "|java/util/(ArrayList|List)\\.(<init>|add|get|set|remove|size|isEmpty|clear|of)"
+            + "|\\[+[BCDFIJSZ]\\.clone|SpanTimetable[\\w$]*\\.[\\w<>]+";
+
     private LanguageTests() {
     }
 
@@ -44,6 +56,12 @@ public final class LanguageTests {
         Kit.begin();
         checkSource(source);
         Kit.end("language: the source");
+        Kit.begin();
+        checkCalls(SpanTimetable.class);
+        for (Class<?> inside : SpanTimetable.class.getDeclaredClasses()) {
+            checkCalls(inside);
+        }
+        Kit.end("language: the calls of the library");
         Kit.begin();
         checkLengths(source);
         Kit.end("language: the lengths of methods");
@@ -149,6 +167,51 @@ public final class LanguageTests {
         }
         if (source.contains("package ")) {
             Kit.fail("the source has a package line");
+        }
+    }
+
+    /** Each call that the compiled class names must be one of rule 4 or of the class's own. */
+    private static void checkCalls(Class<?> compiled) throws IOException {
+        try (DataInputStream in = new DataInputStream(compiled.getResourceAsStream(compiled.getName() + ".class"))) {
+            in.skipNBytes(8);
+            int count = in.readUnsignedShort();
+            String[] texts = new String[count];
+            int[][] numbers = new int[count][];
+            for (int k = 1; k < count; k++) {
+                int tag = in.readUnsignedByte();
+                numbers[k] = new int[] {tag, 0, 0};
+                switch (tag) {
+                    case 1 -> texts[k] = in.readUTF();
+                    case 3, 4 -> in.skipNBytes(4);
+                    case 5, 6 -> {
+                        // A long and a double take two places.
+                        in.skipNBytes(8);
+                        k++;
+                    }
+                    case 7, 8, 16, 19, 20 -> numbers[k][1] = in.readUnsignedShort();
+                    case 15 -> in.skipNBytes(3);
+                    default -> {
+                        numbers[k][1] = in.readUnsignedShort();
+                        numbers[k][2] = in.readUnsignedShort();
+                    }
+                }
+            }
+            for (int[] entry : numbers) {
+                checkEntry(compiled, entry, numbers, texts);
+            }
+        }
+    }
+
+    private static void checkEntry(Class<?> compiled, int[] entry, int[][] numbers, String[] texts) {
+        int tag = entry == null ? 0 : entry[0];
+        if (tag == 17 || tag == 18) {
+            Kit.fail(compiled + " has a call that is made up at run time");
+        }
+        if (tag == 10 || tag == 11) {
+            String call = texts[numbers[entry[1]][1]] + "." + texts[numbers[entry[2]][1]];
+            if (!call.matches(LIBRARY)) {
+                Kit.fail(compiled + " calls " + call);
+            }
         }
     }
 

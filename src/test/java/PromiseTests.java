@@ -940,4 +940,19 @@ public final class PromiseTests {
         x.write();
         Kit.refused(x, INDEX, "written(0) of an empty output", () -> x.written(0));
     }
+
+    static void readmeExample() {
+        SpanTimetable x = new SpanTimetable();
+        x.feed(0x70657269, 0x6f642031, 0x303b6576, 0x656e7420, 0x6120303b);
+        x.feed(0x6576656e, 0x74206220, 0x333b7370, 0x616e2061, 0x20622032);
+        equal("the last feed", 60, x.feed(0x20343b20, 0x20202020, 0x20202020, 0x20202020, 0x20202020));
+        equal("load", 1, x.load(43));
+        equal("duration", 3, x.duration(0));
+        equal("cost", 1, x.cost());
+        equal("cheapen", 0, x.cheapen());
+        equal("write", 7, x.write());
+        equal("written", "a=0 b=2", Kit.output(x));
+        equal("undo", 0, x.undo());
+        equal("times after undo", "0 3", Kit.times(x));
+    }
 }
